@@ -247,8 +247,9 @@ public final class PartsBoundariesTest extends Sentences {
             due("the flags of addPart", x.setFlags(flags - 1, 7 - flags), flags);
             due("the flags of setFlags", x.setFlags(flags - 1, 0), 7 - flags);
         }
+        x.setFlags(0, 5);
         dueThrow("a refused call", ARGUMENT, () -> x.setFlags(0, 8));
-        due("the flags ahead of it", x.setFlags(0, 1), 0);
+        due("the flags ahead of it", x.setFlags(0, 1), 5);
     }
 
     @Sentence(in = "Promise 3", says = "if there is no such part")
@@ -729,10 +730,20 @@ public final class PartsBoundariesTest extends Sentences {
         y.addPart(132, 1, 7);
         y.addPart(13, 1, 7);
         due("12 32 3: an end", y.nodes(), 4);
-        PartSplitter z = new PartSplitter();
-        z.addPart(110, 1, 7);
-        z.addPart(129, 1, 7);
-        due("10 29: the letters 0 and 9", z.nodes(), 4);
+    }
+
+    @Sentence(in = "Promise 11", says = "how many different sets there are")
+    static void p11_nodes_that_differ_by_any_letter_0_to_9() {
+        for (int letter = 0; letter <= 9; letter++) {
+            PartSplitter x = new PartSplitter();
+            int other = (letter + 1) % 10;
+            x.addPart(110 + letter, 1, 7);
+            x.addPart(110 + other, 1, 7);
+            x.addPart(120 + other, 1, 7);
+            due("1 can go on with " + letter + ", 2 cannot", x.nodes(), 4);
+            x.addPart(120 + letter, 1, 7);
+            due("both can go on with " + letter, x.nodes(), 3);
+        }
     }
 
     @Sentence(in = "Promise 11", says = "that are not empty")

@@ -377,6 +377,8 @@ public final class SplitsBoundariesTest extends Sentences {
         due("11, 1 1", x.readings(111), 2);
         due("111, 11 1, 1 11, 1 1 1, 1 -1- 1", x.readings(1111), 6);
         due("8 letters, 513 splits", x.readings(EIGHT_ONES), 8264);
+        due("one split, behind a word of many", x.readings(11), 1);
+        due("no split, behind a word of many", x.readings(12), 0);
     }
 
     @Sentence(in = "Promise 17", says = "`word`: a text of 1 to 8 letters")

@@ -5,7 +5,8 @@ public final class TermsBoundariesTest extends Sentences {
         "if several exceptions apply, the one that its @throws lines name first is thrown.";
     private static final String BY_PLACE = "then by what comes first from the left "
         + "(a part, what is behind it, the next part, what is behind that, and so on) and differs";
-    private static final int[] PROBES = {11, 111, 1117, 11178, 1215, 111111111};
+    private static final int[] WORDS = {11, 111, 1171, 11781, 1141, 111111111};
+    private static final int[] TEXTS = {112, 1215, 1177};
 
     /** Makes an object and some calls of it, the same ones each time. */
     private interface Maker {
@@ -409,6 +410,8 @@ public final class TermsBoundariesTest extends Sentences {
     static void split_is_the_whole_word() {
         PartSplitter x = twoParts();
         due("the word", x.splits(112), 1);
+        due("its first letter", x.partAt(112, 0, 0), 0);
+        due("its second letter", x.partAt(112, 0, 1), 10);
         due("a letter more behind", x.splits(1123), 0);
         due("a letter more ahead", x.splits(1312), 0);
         due("a letter more between", x.splits(1132), 0);
@@ -630,8 +633,8 @@ public final class TermsBoundariesTest extends Sentences {
     }
 
     @Sentence(in = "Terms", says = "The constants: `NONE = -1`: None.")
-    static void none_is_minus_1() {
-        due("NONE", PartSplitter.NONE, -1);
+    static void none_is_minus_1() throws Exception {
+        due("NONE", PartSplitter.class.getField("NONE").getInt(null), -1);
     }
 
     // ---- what the tests share
@@ -709,7 +712,7 @@ public final class TermsBoundariesTest extends Sentences {
         due("what is left by: " + what, picture(x), picture(maker.make()));
     }
 
-    /** All that an object answers, up to some 490 calls; they take it apart. */
+    /** All that an object answers, in less than 512 calls with those that made it; they take it apart. */
     private static String picture(PartSplitter x) {
         StringBuilder all = new StringBuilder();
         all.append(x.parts()).append(' ').append(x.learned()).append(' ').append(x.nodes());
@@ -717,9 +720,12 @@ public final class TermsBoundariesTest extends Sentences {
             int number = part;
             all.append('\n').append(x.count(part)).append(' ').append(answerOf(() -> x.costOf(number)));
         }
-        for (int word : PROBES) {
+        for (int word : WORDS) {
             all.append('\n').append(x.find(word)).append(' ').append(x.splits(word)).append(' ');
             all.append(x.cost(word, 0)).append(' ').append(x.partAt(word, 0, 0)).append(' ').append(x.readings(word));
+        }
+        for (int text : TEXTS) {
+            all.append('\n').append(x.find(text));
         }
         all.append('\n').append(answerOf(() -> x.addLink(16))).append(' ').append(answerOf(() -> x.addPart(1177, 1, 7)));
         int learned = x.learned();
