@@ -1,7 +1,10 @@
+import java.io.IOException;
 import java.lang.reflect.Constructor;
 import java.lang.reflect.Field;
 import java.lang.reflect.Method;
 import java.lang.reflect.Modifier;
+import java.nio.file.Files;
+import java.nio.file.Path;
 import java.util.ArrayList;
 import java.util.List;
 import java.util.Set;
@@ -9,6 +12,9 @@ import java.util.TreeSet;
 
 /** The public face: every constant, constructor and method of the document, and nothing else that is not private. */
 public final class FaceTest {
+    private static final Path DOCUMENT = Path.of("..", "shared", "DOC.md");
+    private static final Path CLASS = Path.of("src", "main", "java", "PartSplitter.java");
+
     private static final String[] FACE = {
         "public static final int NONE",
         "public PartSplitter()",
@@ -33,7 +39,7 @@ public final class FaceTest {
         "public int learned()",
     };
 
-    public static void main(String[] args) {
+    public static void main(String[] args) throws IOException {
         Set<String> due = new TreeSet<>(List.of(FACE));
         Set<String> got = new TreeSet<>(openMembers(PartSplitter.class));
         List<String> wrong = new ArrayList<>();
@@ -51,6 +57,10 @@ public final class FaceTest {
             wrong.add("the class is not final");
         }
         addClashes(wrong);
+        addMissingLines(wrong);
+        if (PartSplitter.NONE != -1) {
+            wrong.add("NONE is not -1");
+        }
         for (String line : wrong) {
             System.out.println(line);
         }
@@ -102,5 +112,40 @@ public final class FaceTest {
                 }
             }
         }
+    }
+
+    /** The document's face, line by line with the names of what is passed, must stand in the class in its order. */
+    private static void addMissingLines(List<String> wrong) throws IOException {
+        if (!Files.isRegularFile(DOCUMENT)) {
+            return;
+        }
+        List<String> lines = linesOfFace();
+        if (lines.size() != FACE.length + 1) {
+            wrong.add("the document's face has " + lines.size() + " lines");
+        }
+        String text = Files.readString(CLASS);
+        int from = 0;
+        for (String line : lines) {
+            String declared = line.contains("=") ? line : line.replaceFirst(";$", "") + " {";
+            int at = text.indexOf(declared, from);
+            if (at < 0) {
+                wrong.add("does not stand in the class, or not in the document's order: " + line);
+            } else {
+                from = at + declared.length();
+            }
+        }
+    }
+
+    private static List<String> linesOfFace() throws IOException {
+        List<String> lines = new ArrayList<>();
+        boolean isFace = false;
+        for (String line : Files.readAllLines(DOCUMENT)) {
+            if (line.startsWith("```")) {
+                isFace = line.equals("```java");
+            } else if (isFace && !line.equals("}")) {
+                lines.add(line.strip().replaceFirst(" *\\{$", ""));
+            }
+        }
+        return lines;
     }
 }
